@@ -108,7 +108,7 @@ public final class PromiseTest {
             {"n7;l6,5,1,1;", NONE}, {"n7;l7,5,1,1;", 3}, {"n2;l1,2,1,1;", 3}, {"l00,01,01,01;", NONE}, {"l01,1,1,1;", 0},
             {"l0,1,0,1;", 0}, {"l0,1,00,1;", 0}, {"l0,1,99,1;", NONE}, {"l0,1,100,1;", 0}, {"l0,1,1,0;", 0},
             {"l0,1,1,20;", NONE}, {"l0,1,1,21;", 0}, {"l0,1,1;", 0}, {"l0,1,1,1,1;", 0}, {"l0,1,1,1,;", 0}, {"l,0,1,1,1;", 0},
-            {"l0,,1,1;", 0}, {"l0,1,1,1", 0}, {"l;", 0}, {"l0;1,1,1;", 0}, {"n4;l0,1,1,1", 3}, {"l0,1,1,1;l0,1,1,1;l0", 18},
+            {"l0,,1,1;", 0}, {"l,1,1,1;", 0}, {"l1,,1,1;", 0}, {"d,1,1;", 0}, {"l0,1,1,1", 0}, {"l;", 0}, {"l0;1,1,1;", 0}, {"n4;l0,1,1,1", 3}, {"l0,1,1,1;l0,1,1,1;l0", 18},
             {"d0,1,0;", 0}, {"d0,1,1;", NONE}, {"d0,1,99;", NONE}, {"d0,1,100;", 0}, {"d0,0,1;", 0}, {"d4,0,1;", 0},
             {"d0,4,1;", 0}, {"d3,0,1;", NONE}, {"d0,1;", 0}, {"d0,1,1,1;", 0}, {"d0,1,1", 0}, {"d0,1,1;l0,1,1,1;d1,0,1;", NONE},
             {"d0,1,1;x;l9;", 7}, {"d0,1,1;l1,1,1,1;l9;", 7},
@@ -237,6 +237,8 @@ public final class PromiseTest {
         due.is("even: LINK 0", 1, back.link(0, 3));
         due.is("even: LINK 2", 7, back.link(2, 3));
         due.is("even: FAR is another behind it", 7, back.far(0, 2));
+        LoadWeights round = Due.laid("n2;l0,1,9,4;l0,1,9,4;l1,0,9,1;d0,1,1;");
+        due.is("even: x is t, though its LINKS lead back", NO, round.even(0, 0));
         // What is none of x's, DOWN or without a way is left.
         LoadWeights left = Due.laid("n5;l0,1,9,4;l0,2,9,4;l1,3,9,4;l2,3,9,4;l0,4,9,4;l4,0,9,4;d0,3,1;");
         left.turn(5, 0);
@@ -411,6 +413,9 @@ public final class PromiseTest {
         full.undo();
         due.is("undo: the MARK that gave way is back", 1, full.tabu(0, 1));
         due.is("undo: the new one is not", 0, full.tabu(0, 7));
+        full.step(2);
+        due.is("undo: behind it the first ones give way again", 0, full.tabu(0, 2));
+        due.is("undo: and no others", 1, full.tabu(0, 3));
     }
 
     // Promise 11
@@ -620,11 +625,15 @@ public final class PromiseTest {
         due.is("rescue: BAD ahead of NO", BAD, x.rescue(0, 3));
         due.is("rescue: the only other one does not help", NONE, x.rescue(1, 2));
         due.is("rescue of the only LINK", NONE, Due.laid("n2;l0,1,1,1;d0,1,1;").rescue(0, 0));
-        // LINK 0's own WEIGHT is no rescue for it, and TABU is not heeded.
+        // TABU is not heeded: here 1, 3, 3 is, and LINK 1 as 3 is the rescue for LINK 0 all the same.
         LoadWeights y = Due.laid("n2;l0,1,9,1;l0,1,1,2;l0,1,1,3;d0,1,1;");
-        y.step(3);
-        y.lay();
-        due.is("rescue: the lowest other LINK first", 1, y.rescue(0, 0));
+        y.move(1, 3);
+        y.step(1);
+        y.move(0, 1);
+        y.move(1, 2);
+        due.is("rescue: it is TABU", 1, y.tabu(1, 3));
+        due.is("rescue: LINK", 1, y.rescue(0, 0));
+        due.is("rescue: WEIGHT, be it TABU", 3, y.rescue(0, 1));
     }
 
     // Promise 19

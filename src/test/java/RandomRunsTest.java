@@ -69,12 +69,12 @@ public final class RandomRunsTest {
 
     /** Mostly good nets; small ones and low WEIGHTS, so that many ways are as short. */
     private String randomText() {
-        int nodes = 2 + random.nextInt(6);
+        int nodes = 2 + random.nextInt(isSearch() ? 2 : 6);
         StringBuilder text = new StringBuilder();
         if (nodes != 4 || random.nextBoolean()) {
             text.append('n').append(nodes).append(';');
         }
-        int links = 1 + random.nextInt(12);
+        int links = 1 + random.nextInt(isSearch() ? 4 : 12);
         int most = random.nextInt(4) == 0 ? 20 : 3;
         int room = random.nextBoolean() ? 9 : 30;
         for (int l = 0; l < links; l++) {
@@ -89,10 +89,14 @@ public final class RandomRunsTest {
                 .append(',').append(1 + random.nextInt(random.nextInt(5) == 0 ? 99 : 12)).append(';');
         }
         if (random.nextInt(6) == 0) {
-            String letters = ";,nld0123456789 x";
-            text.setCharAt(random.nextInt(text.length()), letters.charAt(random.nextInt(letters.length())));
+            Spoil.one(text, random);
         }
         return text.toString();
+    }
+
+    /** Every third run searches small nets, whose LINKS come and go between STEPS. */
+    private boolean isSearch() {
+        return run % 3 == 1;
     }
 
     private void oneCall() {
@@ -102,7 +106,8 @@ public final class RandomRunsTest {
         int b = nodeNumber();
         int n = random.nextInt(4);
         int is = random.nextInt(30) == 0 ? 2 : upTo(1);
-        switch (random.nextInt(16)) {
+        int kind = random.nextInt(16);
+        switch (isSearch() && kind > 9 ? 4 + kind % 2 : kind) {
             case 0, 1 -> both("move(" + l + ", " + w + ")", x.move(l, w), o.move(l, w));
             case 2, 3 -> both("even(" + a + ", " + b + ")", x.even(a, b), o.even(a, b));
             case 4 -> both("step(" + n + ")", x.step(n), o.step(n));
