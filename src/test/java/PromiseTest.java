@@ -539,7 +539,7 @@ public final class PromiseTest {
         x.step(1);
         for (int w = 1; w <= 20; w++) {
             due.is("tabu(0, " + w + ")", w == 1 ? 1 : 0, x.tabu(0, w));
-            // MARK of 3, w is 31 * (31 * 7 + 3) + w, that of 1, 3 is 59 less: none of these is it.
+            // MARK of 3, w is 31 * (31 * 7 + 3) + w, that of 1, 3 is 59 and w less: none of these is it.
             due.is("tabu(1, " + w + ")", 0, x.tabu(1, w));
         }
         x.move(0, 1);
