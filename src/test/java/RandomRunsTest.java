@@ -2,12 +2,15 @@ import java.util.Random;
 
 /** Random runs of calls, each answer compared with the Oracle's. The seeds are fixed. */
 public final class RandomRunsTest {
-    private static final int RUNS = 300;
-    private static final int CALLS = 150;
+    private static final int RUNS = 600;
+    private static final int LEAST_CALLS = 30, MOST_CALLS = 130;
+    /** What an object answers behind its 512th call is free. */
+    private static final int LAST_CALL = 512;
 
     private final Due due = new Due();
     private final Random random;
     private final int run;
+    private int calls = 0;
     private final LoadWeights x = new LoadWeights();
     private final Oracle o = new Oracle();
 
@@ -31,14 +34,19 @@ public final class RandomRunsTest {
             tell(randomText());
             both("lay()", x.lay(), o.lay());
         }
-        for (int i = 0; i < CALLS && due.wrong() == 0; i++) {
+        int turns = LEAST_CALLS + upTo(MOST_CALLS - LEAST_CALLS);
+        for (int i = 0; i < turns && due.wrong() == 0; i++) {
             oneCall();
         }
         lookAtAll();
     }
 
+    /** Both have been called by now, once each. */
     private void both(String call, int got, int want) {
-        due.is("run " + run + ": " + call, want, got);
+        calls++;
+        if (calls <= LAST_CALL) {
+            due.is("run " + run + ", call " + calls + ": " + call, want, got);
+        }
     }
 
     private int upTo(int n) {
@@ -158,7 +166,8 @@ public final class RandomRunsTest {
             for (int d = -1; d <= o.count(2); d++) {
                 both("share(" + d + ", " + l + ")", x.share(d, l), o.share(d, l));
             }
-            for (int w = 0; w <= 21; w++) {
+            for (int i = 0; i < 4; i++) {
+                int w = upTo(21);
                 both("tabu(" + l + ", " + w + ")", x.tabu(l, w), o.tabu(l, w));
             }
         }
