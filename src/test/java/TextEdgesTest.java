@@ -1,3 +1,8 @@
+import java.util.LinkedHashMap;
+import java.util.List;
+import java.util.Map;
+import java.util.function.ToIntFunction;
+
 /**
  * Promises 1 to 5 and what 'Terms' says of THE TEXT, at the edges: one method for each case
  * that a sentence of the document names.
@@ -37,6 +42,7 @@ public final class TextEdgesTest {
         laidBeginsAnew();
         laidTellsWhatThereIs();
         refusedLayChangesNothing();
+        toldButNotLaid();
         due.end("TextEdgesTest");
     }
 
@@ -476,5 +482,90 @@ public final class TextEdgesTest {
         x.turn(0, 0);
         x.move(3, 9);
         return x;
+    }
+
+    // ---- "All that is asked is told of all as it stands then": by the net that is LAID, not by the one THE TEXT tells
+
+    private static void toldButNotLaid() {
+        String less = "n2;l1,0,3,9;d1,0,7;";
+        String more = WHOLE.substring(0, 191);
+        List<ToIntFunction<LoadWeights>> reading = List.of(LoadWeights::fault, LoadWeights::lay, x -> x.lay() + x.fault());
+        for (ToIntFunction<LoadWeights> read : reading) {
+            for (String text : new String[] {less + "x", more}) {
+                ofTheFirstNet().forEach((call, want) -> due.is("first net, told " + text + ": " + call.name(), want,
+                    call.call().applyAsInt(told(text, read))));
+                evenedByTheFirstNet(told(text, read));
+            }
+        }
+        LoadWeights whole = told(less, LoadWeights::fault);
+        due.is("only asked for its FAULT", 7, whole.count(1));
+        due.is("now LAID", 1, whole.lay());
+        due.is("now it is that net", 3, whole.link(0, 2));
+        due.is("now LINK 1 is none", BAD, whole.link(1, 2));
+    }
+
+    private static LoadWeights told(String text, ToIntFunction<LoadWeights> read) {
+        LoadWeights x = new LoadWeights();
+        Due.write(x, text);
+        read.applyAsInt(x);
+        return x;
+    }
+
+    private record Call(String name, ToIntFunction<LoadWeights> call) { }
+
+    private static Map<Call, Integer> ofTheFirstNet() {
+        Map<Call, Integer> answers = new LinkedHashMap<>();
+        int[] link6 = {2, 1, 5, 1, 1, 66, 3580, 2};
+        int[] counts = {5, 7, 2, 0, 0, 2, 26064, 107, 0, 0};
+        for (int i = 0; i < link6.length; i++) {
+            int what = i;
+            answers.put(new Call("link(6, " + what + ")", x -> x.link(6, what)), link6[i]);
+        }
+        for (int i = 0; i < counts.length; i++) {
+            int what = i;
+            answers.put(new Call("count(" + what + ")", x -> x.count(what)), counts[i]);
+        }
+        answers.put(new Call("far(0, 4)", x -> x.far(0, 4)), 4);
+        answers.put(new Call("far(3, 3)", x -> x.far(3, 3)), 0);
+        answers.put(new Call("far(4, 0)", x -> x.far(4, 0)), NONE);
+        answers.put(new Call("share(0, 1)", x -> x.share(0, 1)), 108);
+        answers.put(new Call("share(1, 3)", x -> x.share(1, 3)), 30);
+        answers.put(new Call("cost()", LoadWeights::cost), 26064);
+        answers.put(new Call("tabu(6, 1)", x -> x.tabu(6, 1)), 0);
+        answers.put(new Call("best(0)", x -> x.best(0)), 4);
+        answers.put(new Call("best(1)", x -> x.best(1)), 1);
+        answers.put(new Call("best(2)", x -> x.best(2)), 26064);
+        answers.put(new Call("worst(0)", x -> x.worst(0)), 3);
+        answers.put(new Call("worst(1)", x -> x.worst(1)), 91788);
+        answers.put(new Call("rescue(0, 0)", x -> x.rescue(0, 0)), 2);
+        answers.put(new Call("rescue(0, 2)", x -> x.rescue(0, 2)), 666);
+        answers.put(new Call("rescue(6, 0)", x -> x.rescue(6, 0)), NONE);
+        answers.put(new Call("move(6, 2)", x -> x.move(6, 2)), 1);
+        answers.put(new Call("turn(4, 0)", x -> x.turn(4, 0)), 26064);
+        // LINKS 0 and 2 are as they would be; LINK 4 ends in 3, from where there is no way to 1.
+        answers.put(new Call("even(0, 1)", x -> x.even(0, 1)), NO);
+        answers.put(new Call("step(1)", x -> x.step(1)), 26064);
+        // No LINK 7, no NODE 5, no DEMAND 2 is there, though the greater TEXT tells them.
+        answers.put(new Call("link(7, 0)", x -> x.link(7, 0)), BAD);
+        answers.put(new Call("move(7, 1)", x -> x.move(7, 1)), BAD);
+        answers.put(new Call("turn(7, 0)", x -> x.turn(7, 0)), BAD);
+        answers.put(new Call("tabu(7, 1)", x -> x.tabu(7, 1)), BAD);
+        answers.put(new Call("rescue(7, 0)", x -> x.rescue(7, 0)), BAD);
+        answers.put(new Call("share(0, 7)", x -> x.share(0, 7)), BAD);
+        answers.put(new Call("share(2, 0)", x -> x.share(2, 0)), BAD);
+        answers.put(new Call("far(5, 4)", x -> x.far(5, 4)), BAD);
+        answers.put(new Call("far(0, 5)", x -> x.far(0, 5)), BAD);
+        answers.put(new Call("even(5, 4)", x -> x.even(5, 4)), BAD);
+        answers.put(new Call("even(0, 5)", x -> x.even(0, 5)), BAD);
+        return answers;
+    }
+
+    private static void evenedByTheFirstNet(LoadWeights x) {
+        due.is("first net: even(0, 4)", 3, x.even(0, 4));
+        int[] weights = {3, 2, 2, 3, 1, 4, 1};
+        for (int l = 0; l < weights.length; l++) {
+            due.is("first net: WEIGHT of LINK " + l, weights[l], x.link(l, 3));
+        }
+        due.is("first net: COST", 4536, x.cost());
     }
 }
